@@ -67,9 +67,9 @@ public final class CaissonSinker {
     private static final int BLASTED = 4;
     private static final int PUMPED = 5;
 
-    private final Site site = new Site();
+    private final Forces forces = new Forces();
+    private final Site site = forces.site;
     private final Site draft = new Site();
-    private final Forces forces = new Forces(site);
     private final History history = new History();
     private final Text text = new Text();
     private final Triples wellsToDig = new Triples(MOST_PLANNED_WELLS);
@@ -461,14 +461,10 @@ public final class CaissonSinker {
     }
 
     private int reachableBoulder(int cell) {
-        int from = 0;
-        int reach = 0;
-        if (site.isEdge(cell)) {
-            reach = forces.edgeDepth(site.pose, site.columnOf(cell), site.rowOf(cell));
-        } else {
-            from = site.pose.bottoms[cell];
-            reach = from + 1;
-        }
+        boolean isWell = site.isWell(cell);
+        int from = isWell ? site.pose.bottoms[cell] : 0;
+        int reach = isWell ? from + 1
+                : forces.edgeDepth(site.pose, site.columnOf(cell), site.rowOf(cell));
         int found = site.boulders.firstFrom(cell, from);
         if (found == NONE || site.boulders.depthOf(found) > reach) {
             return NONE;
@@ -576,11 +572,12 @@ public final class CaissonSinker {
             int sum = 0;
             int start = 0;
             for (int i = 0; i < layers.count; i++) {
-                int end = layers.get(i, 0);
+                int end = layers.values[i * PARTS];
+                int friction = layers.values[i * PARTS + 2];
                 if (depth <= end) {
-                    return sum + (depth - start) * layers.get(i, 2);
+                    return sum + (depth - start) * friction;
                 }
-                sum += (end - start) * layers.get(i, 2);
+                sum += (end - start) * friction;
                 start = end;
             }
             return sum + (depth - start) * FRICTION_BELOW_LAYERS;
@@ -629,8 +626,8 @@ public final class CaissonSinker {
         int hardnessDownTo(int cell, int depth) {
             int sum = 0;
             for (int i = 0; i < list.count; i++) {
-                if (list.get(i, 0) == cell && list.get(i, 1) <= depth) {
-                    sum += list.get(i, 2);
+                if (list.values[i * PARTS] == cell && list.values[i * PARTS + 1] <= depth) {
+                    sum += list.values[i * PARTS + 2];
                 }
             }
             return sum;
@@ -814,13 +811,13 @@ public final class CaissonSinker {
         }
     }
 
-    /** What weight and ground do to the caisson of a site, in its own pose or in an imagined one. */
+    /** What weight and ground do to the caisson, in its own pose or in an imagined one. */
     private static final class Forces {
         static final int HOLDS = 0;
         static final int SINKS = 1;
         static final int JAMS = 2;
 
-        private final Site site;
+        final Site site = new Site();
         private final Pose trial = new Pose();
         final Pose chosen = new Pose();
         int excess;
@@ -828,10 +825,6 @@ public final class CaissonSinker {
         int momentY;
         private int nextTiltX;
         private int nextTiltY;
-
-        Forces(Site site) {
-            this.site = site;
-        }
 
         int edgeDepth(Pose pose, int x, int y) {
             int twice = pose.tiltX * (2 * x - site.columns + 1) + pose.tiltY * (2 * y - site.rows + 1);

@@ -24,6 +24,8 @@ public final class CaissonAndGroundTest {
         appendCharacterAndClearText();
         goodTexts();
         badTexts();
+        endOfTheText();
+        readAgain();
         capacityInTexts();
         loadBeginsAnew();
         resize();
@@ -89,6 +91,9 @@ public final class CaissonAndGroundTest {
         loads("plann 3 3;", -10);
         loads("Plan 3 3;", -10);
         loads("pLan 3 3;", -10);
+        loads("xlan 3 3;", -10);
+        loads("weightz 5;", -10);
+        loads("aweight 5;", -10);
         loads("layers 1 1 1;", -10);
         loads(" x;", -11);
         loads("weight weight 5;", -17);
@@ -126,6 +131,10 @@ public final class CaissonAndGroundTest {
         loads("layer 1 51 0;", -18);
         loads("layer 1 0 10;", -20);
         loads("layer 1 0;", -19);
+        loads("layer 1 00 0;", -18);
+        loads("layer 1 0 00;", -20);
+        loads("boulder 00 0 1 1;", -18);
+        loads("boulder 0 00 1 1;", -20);
         loads("boulder 5 0 1 1;", -18);
         loads("boulder 0 4 1 1;", -20);
         loads("boulder 0 0 0 1;", -22);
@@ -151,6 +160,26 @@ public final class CaissonAndGroundTest {
         loads("weight " + (char) 0 + "5;", -17);
         loads((char) 255 + "weight 5;", -10);
         loads((char) 160 + "weight 5;", -10);
+    }
+
+    private void endOfTheText() {
+        loads(" ".repeat(199) + "x", -209);
+        loads(" ".repeat(199) + "5", -209);
+        loads(" ".repeat(199) + ";", -209);
+        loads(" ".repeat(192) + "weight 5", -210);
+        loads(" ".repeat(194) + "weight", -210);
+        loads(" ".repeat(191) + "weight 5;", 1);
+        // What a longer text has left behind doesn't count.
+        run("promise 4: a shorter text").type("weight 55;").type("weight 5").calls("load() = -18");
+        run("promise 4: a shorter text").type("weight 5;x").type("weigh").calls("load() = -10");
+    }
+
+    private void readAgain() {
+        run("promise 4: again").type("plan 3 3;weight 5;water 6;stiff 7;layer 1 2 3;boulder 1 1 1 1;x")
+                .calls("load() = -72").type("").calls("load() = 0;" + AS_AT_FIRST)
+                .type("plan 3 3;weight 5;water 6;stiff 7;layer 1 2 3;boulder 1 1 1 1;")
+                .calls("load() = 6; state(0) = 3; state(7) = 1; pump(7) = 6; setBallast(0,9) = 0;"
+                        + "lubricate(0,1) = 1; dig(4,1) = 1; load() = 0;" + AS_AT_FIRST);
     }
 
     private void capacityInTexts() {
@@ -182,6 +211,10 @@ public final class CaissonAndGroundTest {
         run("promise 5: wrong").calls("resize(2,3) = INVALID_ARGUMENT; resize(3,2) = INVALID_ARGUMENT;"
                 + "resize(8,3) = INVALID_ARGUMENT; resize(3,8) = INVALID_ARGUMENT;"
                 + "resize(LEAST,MOST) = INVALID_ARGUMENT; state(0) = 5; undo() = ILLEGAL_STATE");
+        run("promise 5: what goes").calls("setBallast(0,9) = 0; setBallast(19,9) = 0; lubricate(0,1) = 1;"
+                + "lubricate(3,1) = 2; dig(6,1) = 1; dig(13,1) = 1; resize(5,4) = 6; state(6) = 0;"
+                + "setBallast(0,0) = ILLEGAL_STATE; lubricate(0,0) = ILLEGAL_STATE; lubricate(3,0) = ILLEGAL_STATE;"
+                + "bottom(6) = 0; bottom(13) = 0; setBallast(19,0) = ILLEGAL_STATE");
         run("promise 5: what stays").calls(MANY_CHANGES + "resize(4,5) = 6; state(0) = 4; state(1) = 5;"
                 + "state(2) = 700; state(3) = 0; state(4) = 10; state(5) = 10; state(6) = 0;"
                 + "state(7) = 0; state(8) = 1; state(9) = 100; state(10) = 10; state(11) = 6;"

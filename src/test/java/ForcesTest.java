@@ -74,6 +74,9 @@ public final class ForcesTest {
                 + "edge(19,2) = 28; lubricate(2,0) = 1; edge(0,2) = 7; edge(2,2) = 28; edge(4,2) = 28;"
                 + "lubricate(1,1) = 2; edge(4,2) = 7; edge(9,2) = 7; edge(18,2) = 28; lubricate(3,1) = 3;"
                 + "edge(18,2) = 7; edge(3,2) = 28");
+        run("promise 13: skin of many layers").calls("addLayer(2,0,1) = 1; addLayer(3,0,2) = 2; addLayer(1,0,5) = 3;"
+                + "addLayer(9,0,3) = 4; settle(5) = 5; edge(0,2) = 32; settle(1) = 1; edge(0,2) = 52; settle(2) = 2;"
+                + "edge(0,2) = 76");
         run("promise 13: skin below all layers").calls("addLayer(1,0,2) = 1; setWeight(9999) = 600; settle(3) = 3;"
                 + "edge(0,2) = 80");
     }
@@ -143,7 +146,8 @@ public final class ForcesTest {
         // Each cell: support 4, skin 4 * 3 (3 where slippery), buoyancy 2.
         run("promise 18: all three forces").calls("addLayer(50,1,1) = 1; settle(3) = 3; pump(1) = 400;"
                 + "sideResistance(0) = 72; sideResistance(2) = 90; lubricate(1,1) = 1; sideResistance(0) = 72;"
-                + "sideResistance(1) = 36; sideResistance(2) = 81; sideResistance(3) = 81");
+                + "sideResistance(1) = 36; sideResistance(2) = 81; sideResistance(3) = 81;"
+                + "lubricate(3,1) = 2; sideResistance(3) = 45; sideResistance(0) = 63; sideResistance(2) = 81");
     }
 
     private void stuckDepth() {
@@ -164,6 +168,8 @@ public final class ForcesTest {
     private void ballastNeeded() {
         run("promise 20").calls("ballastNeeded() = 0; setWeight(1) = 600; surplus() = -1676; ballastNeeded() = 420;"
                 + "setWeight(420) = 1; surplus() = 0; ballastNeeded() = 1; setWeight(421) = 420; ballastNeeded() = 0");
+        run("promise 20: surplus 1").calls("addLayer(50,1,0) = 1; dig(7,1) = 1; setWeight(7) = 600; surplus() = 1;"
+                + "ballastNeeded() = 0; nextStep() = 1");
         run("promise 20: no multiple of 4").calls("addLayer(50,1,0) = 1; dig(6,1) = 1; setWeight(1) = 600;"
                 + "surplus() = -21; ballastNeeded() = 6; setWeight(6) = 1; surplus() = -1; ballastNeeded() = 1;"
                 + "setWeight(7) = 6; surplus() = 3; ballastNeeded() = 0; setWeight(5) = 7; surplus() = -5;"

@@ -59,7 +59,8 @@ public final class WhatWouldBeTest {
         run("promise 29: the smallest number").calls("addLayer(50,1,0) = 1; bestWell(1) = 6; bestWell(10) = 6;"
                 + "bottom(6) = 0; state(3) = 0; state(11) = 0; undo() = 0");
         // By the well 6 it would sink but tilt; by 7 and by 12 it sinks upright.
-        run("promise 29: upright").calls("setWeight(420) = 600; nextStep() = 0; bestWell(1) = 7; state(3) = 0");
+        run("promise 29: upright").calls("setWeight(420) = 600; nextStep() = 0; bestWell(1) = 7; state(3) = 0;"
+                + "setStiffness(500) = 400; bestWell(1) = 7; setStiffness(600) = 500; bestWell(1) = 6");
         // By the well 6 it would sink and tilt; by 7 it holds. The tilt counts more than the depth.
         run("promise 29: tilt before depth").calls("setWeight(390) = 600; bestWell(1) = 7; setStiffness(9999) = 400;"
                 + "bestWell(1) = 6");

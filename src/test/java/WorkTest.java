@@ -104,6 +104,14 @@ public final class WorkTest {
                 + "boulder(0,1) = 2; blast(0,50) = 0; state(7) = 1; boulder(0,0) = 1; blast(0,50) = ILLEGAL_STATE;"
                 + "blast(1,1) = ILLEGAL_STATE; settle(1) = 1; blast(1,4) = 1; record(0,0) = 4; record(0,1) = 1;"
                 + "record(0,2) = 3; undo() = 5; boulder(0,2) = 5");
+        Run ten = run("promise 25: one of ten");
+        for (int cell = 0; cell < 10; cell++) {
+            ten.calls("addBoulder(" + cell + ",1," + (cell + 1) + ") = " + cell);
+        }
+        ten.calls("addLayer(50,0,0) = 1; settle(1) = 1; blast(0,1) = 0; state(7) = 9; boulder(0,0) = 1; boulder(8,0) = 9;"
+                + "boulder(8,2) = 10; boulder(9,0) = INVALID_ARGUMENT; blast(9,50) = 0; state(7) = 8; boulder(7,0) = 8;"
+                + "blast(4,3) = 2; boulder(3,2) = 2; boulder(2,2) = 4; boulder(4,2) = 6; addBoulder(0,9,9) = 0;"
+                + "addBoulder(19,9,9) = 9; addBoulder(18,9,9) = CAPACITY_EXCEEDED");
         run("promise 25: wrong").calls("addLayer(50,0,0) = 1; addBoulder(0,1,10) = 0; settle(1) = 1;"
                 + "blast(0,0) = INVALID_ARGUMENT; blast(0,51) = INVALID_ARGUMENT; blast(-1,1) = INVALID_ARGUMENT;"
                 + "blast(20,1) = INVALID_ARGUMENT; blast(MOST,0) = INVALID_ARGUMENT; blast(19,1) = ILLEGAL_STATE;"
