@@ -800,9 +800,9 @@ public final class CaissonSinker {
             return slippery ? 1 : 4;
         }
 
-        int bottomAfterDigging(Pose digged, int cell, int amount) {
-            int present = digged.bottoms[cell];
-            int limit = Math.min(digged.depth + DIGGING_BELOW_EDGE, LOWEST_BOTTOM);
+        int bottomAfterDigging(Pose from, int cell, int amount) {
+            int present = from.bottoms[cell];
+            int limit = Math.min(from.depth + DIGGING_BELOW_EDGE, LOWEST_BOTTOM);
             int stopper = boulders.firstFrom(cell, present);
             if (stopper != NONE) {
                 limit = Math.min(limit, boulders.depthOf(stopper));
