@@ -220,7 +220,7 @@ public final class CaissonSinker {
     }
 
     public int bottom(int cell) {
-        return site.isWell(cell) ? site.pose.bottoms[cell] : INVALID_ARGUMENT;
+        return site.isWell(cell) ? site.pose.bottomOf(cell) : INVALID_ARGUMENT;
     }
 
     public int surplus() {
@@ -271,13 +271,13 @@ public final class CaissonSinker {
         if (!site.isWell(cell) || !isWithin(amount, 1, MOST_DIGGING)) {
             return INVALID_ARGUMENT;
         }
-        int previous = site.pose.bottoms[cell];
+        int previous = site.pose.bottomOf(cell);
         int next = site.bottomAfterDigging(site.pose, cell, amount);
         if (next <= previous) {
             return ILLEGAL_STATE;
         }
         history.save(site);
-        site.pose.bottoms[cell] = next;
+        site.pose.putBottom(cell, next);
         writeRecord(DUG, cell);
         return next - previous;
     }
@@ -299,12 +299,12 @@ public final class CaissonSinker {
         if (!site.isCell(cell) || !isWithin(ballast, 0, MOST_BALLAST)) {
             return INVALID_ARGUMENT;
         }
-        int previous = site.ballast[cell];
+        int previous = site.ballastOf(cell);
         if (previous == ballast) {
             return ILLEGAL_STATE;
         }
         history.save(site);
-        site.ballast[cell] = ballast;
+        site.putBallast(cell, ballast);
         writeRecord(BALLASTED, cell);
         return previous;
     }
@@ -411,7 +411,7 @@ public final class CaissonSinker {
             int cell = wellsToDig.get(k, 0);
             // A resize since the plan was made may have left an edge cell or no cell of this number.
             if (site.isWell(cell)) {
-                site.pose.bottoms[cell] = site.bottomAfterDigging(site.pose, cell, plannedAmount);
+                site.pose.putBottom(cell, site.bottomAfterDigging(site.pose, cell, plannedAmount));
             }
             forces.sink(site.pose, PLANNED_STEPS);
         }
@@ -462,7 +462,7 @@ public final class CaissonSinker {
 
     private int reachableBoulder(int cell) {
         boolean isWell = site.isWell(cell);
-        int from = isWell ? site.pose.bottoms[cell] : 0;
+        int from = isWell ? site.pose.bottomOf(cell) : 0;
         int reach = isWell ? from + 1
                 : forces.edgeDepth(site.pose, site.columnOf(cell), site.rowOf(cell));
         int found = site.boulders.firstFrom(cell, from);
@@ -662,6 +662,16 @@ public final class CaissonSinker {
             }
         }
 
+        int bottomOf(int cell) {
+            return cell >= 0 && cell < bottoms.length ? bottoms[cell] : 0;
+        }
+
+        void putBottom(int cell, int bottom) {
+            if (cell >= 0 && cell < bottoms.length) {
+                bottoms[cell] = bottom;
+            }
+        }
+
         int tiltSum() {
             return Math.abs(tiltX) + Math.abs(tiltY);
         }
@@ -776,6 +786,16 @@ public final class CaissonSinker {
             return wellY * columns + wellX;
         }
 
+        int ballastOf(int cell) {
+            return cell >= 0 && cell < ballast.length ? ballast[cell] : 0;
+        }
+
+        void putBallast(int cell, int weight) {
+            if (cell >= 0 && cell < ballast.length) {
+                ballast[cell] = weight;
+            }
+        }
+
         int totalBallast() {
             int sum = 0;
             for (int cell = 0; cell < ballast.length; cell++) {
@@ -801,7 +821,7 @@ public final class CaissonSinker {
         }
 
         int bottomAfterDigging(Pose from, int cell, int amount) {
-            int present = from.bottoms[cell];
+            int present = from.bottomOf(cell);
             int limit = Math.min(from.depth + DIGGING_BELOW_EDGE, LOWEST_BOTTOM);
             int stopper = boulders.firstFrom(cell, present);
             if (stopper != NONE) {
@@ -832,7 +852,7 @@ public final class CaissonSinker {
         }
 
         int support(Pose pose, int x, int y, int depth) {
-            int times = depth - pose.bottoms[site.wellBeside(x, y)] + 2;
+            int times = depth - pose.bottomOf(site.wellBeside(x, y)) + 2;
             times = Math.max(0, Math.min(4, times));
             int cell = y * site.columns + x;
             return times * site.ground.strengthAt(depth)
@@ -859,7 +879,7 @@ public final class CaissonSinker {
             momentY = 0;
             for (int y = 0; y < site.rows; y++) {
                 for (int x = 0; x < site.columns; x++) {
-                    int upward = -4 * site.ballast[y * site.columns + x];
+                    int upward = -4 * site.ballastOf(y * site.columns + x);
                     if (site.isEdgeAt(x, y)) {
                         upward += resistance(pose, x, y);
                     }
@@ -905,9 +925,10 @@ public final class CaissonSinker {
             for (int y = 1; y < site.rows - 1; y++) {
                 for (int x = 1; x < site.columns - 1; x++) {
                     int cell = y * site.columns + x;
-                    int allowed = 4 + site.ground.strengthAt(pose.bottoms[cell]) / 5;
-                    if (pose.bottoms[cell] - pose.depth > allowed) {
-                        pose.bottoms[cell] = pose.depth;
+                    int bottom = pose.bottomOf(cell);
+                    int allowed = 4 + site.ground.strengthAt(bottom) / 5;
+                    if (bottom - pose.depth > allowed) {
+                        pose.putBottom(cell, pose.depth);
                     }
                 }
             }
@@ -922,11 +943,11 @@ public final class CaissonSinker {
                     continue;
                 }
                 int next = site.bottomAfterDigging(from, cell, amount);
-                if (next <= from.bottoms[cell]) {
+                if (next <= from.bottomOf(cell)) {
                     continue;
                 }
                 trial.copyFrom(from);
-                trial.bottoms[cell] = next;
+                trial.putBottom(cell, next);
                 sink(trial, PLANNED_STEPS);
                 if (best == NONE || isBetterThanChosen(trial)) {
                     best = cell;
@@ -993,15 +1014,17 @@ public final class CaissonSinker {
         }
 
         void save(Site site) {
-            saved[next].copyFrom(site);
-            next = (next + 1) % MOST_SAVED;
+            saved[Math.floorMod(next, MOST_SAVED)].copyFrom(site);
+            next = Math.floorMod(next + 1, MOST_SAVED);
             count = Math.min(count + 1, MOST_SAVED);
         }
 
         void restore(Site site) {
-            next = (next + MOST_SAVED - 1) % MOST_SAVED;
-            site.copyFrom(saved[next]);
-            count--;
+            if (count > 0) {
+                next = Math.floorMod(next - 1, MOST_SAVED);
+                site.copyFrom(saved[next]);
+                count--;
+            }
         }
     }
 

@@ -1,9 +1,5 @@
 /** Promises 13 to 20, and with them the terms about forces, moments and steps. */
 public final class ForcesTest {
-    /** Ground that bears nothing down to 300: only ballast tilts, and nothing holds. */
-    private static final String NO_RESISTANCE = "addLayer(100,0,0) = 1; addLayer(100,0,0) = 2;"
-            + "addLayer(100,0,0) = 3;";
-
     private final Checks checks = new Checks("ForcesTest");
 
     public static void main(String[] args) {
@@ -43,13 +39,13 @@ public final class ForcesTest {
 
     private void edgeDepth() {
         // Ballast in the cell (0, 1): both tilts become -1, and stay so without it.
-        run("promise 13: depth").calls(NO_RESISTANCE + "setStiffness(0) = 400; setBallast(5,99) = 0;"
+        run("promise 13: depth").calls(Run.NO_RESISTANCE + "setStiffness(0) = 400; setBallast(5,99) = 0;"
                 + "settle(1) = 1; state(4) = 9; state(5) = 9; edge(0,0) = 4; edge(5,0) = 3; edge(10,0) = 2;"
                 + "edge(15,0) = 1; edge(9,0) = 0; edge(19,0) = 0; setBallast(5,0) = 99; settle(4) = 4;"
                 + "state(4) = 9; state(5) = 9; edge(0,0) = 8; edge(1,0) = 7; edge(5,0) = 7; edge(10,0) = 6;"
                 + "edge(9,0) = 3; edge(14,0) = 2; edge(4,0) = 4; edge(19,0) = 1");
         // The other way: ballast in (4, 2), tilts of +1.
-        run("promise 13: depth").calls(NO_RESISTANCE + "setStiffness(0) = 400; setBallast(14,99) = 0;"
+        run("promise 13: depth").calls(Run.NO_RESISTANCE + "setStiffness(0) = 400; setBallast(14,99) = 0;"
                 + "settle(1) = 1; state(4) = 11; state(5) = 11; edge(14,0) = 3; edge(9,0) = 2; edge(19,0) = 4;"
                 + "edge(0,0) = 0; edge(10,0) = 0; edge(18,0) = 3");
     }
@@ -114,21 +110,21 @@ public final class ForcesTest {
     private void nextStep() {
         run("promise 17: holds at 0").calls("addLayer(50,1,0) = 1; setWeight(7) = 600; surplus() = 0; nextStep() = 0;"
                 + "settle(1) = ILLEGAL_STATE; setWeight(8) = 7; surplus() = 4; nextStep() = 1");
-        run("promise 17: jams").calls(NO_RESISTANCE + "setBallast(5,99) = 0; nextStep() = 1; settle(50) = 5;"
+        run("promise 17: jams").calls(Run.NO_RESISTANCE + "setBallast(5,99) = 0; nextStep() = 1; settle(50) = 5;"
                 + "state(3) = 5; state(4) = 5; state(5) = 10; nextStep() = 2; settle(9) = 0; state(3) = 5;"
                 + "state(4) = 5; setBallast(5,0) = 99; nextStep() = 1; settle(2) = 2; state(4) = 5");
         // b could still change, but the step isn't made.
-        run("promise 17: jams by one tilt").calls(NO_RESISTANCE + "setBallast(9,99) = 0; settle(50) = 5;"
+        run("promise 17: jams by one tilt").calls(Run.NO_RESISTANCE + "setBallast(9,99) = 0; settle(50) = 5;"
                 + "state(4) = 15; state(5) = 10; setStiffness(300) = 400; nextStep() = 2; settle(1) = 0;"
                 + "state(5) = 10; setBallast(9,0) = 99; setBallast(2,99) = 0; nextStep() = 1; settle(50) = 5;"
                 + "state(4) = 15; state(5) = 5; nextStep() = 2; state(3) = 10");
-        run("promise 17: holds at 200").calls(NO_RESISTANCE + "settle(50) = 50; settle(50) = 50; settle(50) = 50;"
+        run("promise 17: holds at 200").calls(Run.NO_RESISTANCE + "settle(50) = 50; settle(50) = 50; settle(50) = 50;"
                 + "settle(49) = 49; nextStep() = 1; settle(50) = 1; state(3) = 200; surplus() = 2400; nextStep() = 0;"
                 + "settle(1) = ILLEGAL_STATE; wouldSettle(1,0) = 0; stuckDepth() = NONE");
     }
 
     private void stiffness() {
-        String begin = NO_RESISTANCE;
+        String begin = Run.NO_RESISTANCE;
         run("a step: a down").calls(begin + "setBallast(6,10) = 0; moment(0) = 80; setStiffness(80) = 400;"
                 + "settle(1) = 1; state(4) = 10; setStiffness(79) = 80; settle(1) = 1; state(4) = 9; state(5) = 10");
         run("a step: a up").calls(begin + "setBallast(8,10) = 0; moment(0) = -80; setStiffness(80) = 400;"
@@ -156,7 +152,7 @@ public final class ForcesTest {
                 + "stuckDepth() = 55; lubricate(1,1) = 2; stuckDepth() = 75; lubricate(2,1) = 3; stuckDepth() = 105;"
                 + "lubricate(3,1) = 4; stuckDepth() = 172; setWeight(700) = 600; stuckDepth() = 200;"
                 + "setWeight(701) = 700; stuckDepth() = NONE");
-        run("promise 19: buoyancy").calls(NO_RESISTANCE + "stuckDepth() = NONE; pump(10) = 400; stuckDepth() = 182;"
+        run("promise 19: buoyancy").calls(Run.NO_RESISTANCE + "stuckDepth() = NONE; pump(10) = 400; stuckDepth() = 182;"
                 + "setWeight(7) = 600; stuckDepth() = 12; setWeight(8) = 7; stuckDepth() = 13");
         run("promise 19: from c").calls("addLayer(100,0,1) = 1; setWeight(9999) = 600; settle(50) = 50;"
                 + "setWeight(600) = 9999; stuckDepth() = 50; resize(5,4) = 6; stuckDepth() = 43");

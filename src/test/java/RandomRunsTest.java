@@ -7,8 +7,9 @@ import java.util.TreeMap;
 
 /** Runs of calls by chance (always the same ones), compared with the plain model call by call. */
 public final class RandomRunsTest {
-    private static final int RUNS = 250;
-    private static final int CALLS = 300;
+    private static final int RUNS = 900;
+    /** The last calls of a run look at what has become of it. */
+    private static final int CLOSING_CALLS = 150;
     private static final String[] WORDS = {"plan", "weight", "water", "stiff", "layer", "boulder"};
 
     /** What must have been answered now and then, or the runs would prove nothing about it. */
@@ -27,6 +28,7 @@ public final class RandomRunsTest {
     private final CaissonSinker caisson = new CaissonSinker();
     private final PlainModel model = new PlainModel();
     private final List<String> before = new ArrayList<>();
+    private int made = 0;
 
     private RandomRunsTest(Checks checks, int run) {
         this.checks = checks;
@@ -47,16 +49,32 @@ public final class RandomRunsTest {
 
     private void go() {
         prepare();
-        for (int i = 0; i < CALLS && checks.isSpotless(); i++) {
+        while (left() > CLOSING_CALLS && checks.isSpotless()) {
             callSomething();
-            compareSummary();
+            for (int i = 0; i < 3; i++) {
+                askOfTheWhole();
+            }
         }
-        compareAll();
+        while (left() > 40 && checks.isSpotless()) {
+            askOfAPart();
+        }
+        while (left() > 0 && checks.isSpotless()) {
+            if (random.nextInt(5) == 0) {
+                call("undo");
+            } else {
+                askOfTheWhole();
+            }
+        }
+    }
+
+    private int left() {
+        return Run.MOST_CALLS - made;
     }
 
     private int call(String method, int... values) {
         String row = method + Arrays.toString(values);
         before.add(row);
+        made++;
         int got = Run.answer(caisson, method, values);
         int want = model.answer(method, values);
         if (got != want) {
@@ -101,8 +119,30 @@ public final class RandomRunsTest {
         return someCell();
     }
 
+    /** What a run of 512 calls would seldom come to by itself: the depth of 200, or no well that could be dug. */
+    private void prepareRareCase() {
+        switch (random.nextInt(12)) {
+            case 0:
+                for (int i = 0; i < 4; i++) {
+                    call("addLayer", 100, upTo(1), 0);
+                    call("settle", 46 + upTo(4));
+                }
+                call("state", 3);
+                break;
+            case 1:
+                call("resize", 3, 3);
+                call("addBoulder", 4, 1 + upTo(4), 9);
+                call("dig", 4, 1 + upTo(9));
+                call("bestWell", 1 + upTo(9));
+                break;
+            default:
+                break;
+        }
+    }
+
     /** Soft ground, so that most runs have something that sinks and tilts. */
     private void prepare() {
+        prepareRareCase();
         if (random.nextInt(3) == 0) {
             type(goodText());
             call("load");
@@ -191,9 +231,11 @@ public final class RandomRunsTest {
         }
     }
 
+    /** No text where no room would be left for what comes behind it. */
     private void type(String text) {
         call("clearText");
-        for (int i = 0; i < text.length() && i < 205; i++) {
+        int end = Math.min(text.length(), left() - CLOSING_CALLS);
+        for (int i = 0; i < end; i++) {
             call("appendCharacter", text.charAt(i));
         }
     }
@@ -260,51 +302,31 @@ public final class RandomRunsTest {
         return text.toString();
     }
 
-    private void compareSummary() {
-        for (int what = 3; what <= 11; what++) {
-            call("state", what);
+    private void askOfTheWhole() {
+        switch (random.nextInt(8)) {
+            case 0: call("surplus"); break;
+            case 1: call("moment", upTo(1)); break;
+            case 2: call("nextStep"); break;
+            case 3: call("highSide"); break;
+            case 4: call("bottom", someWell()); break;
+            case 5: call("edge", someCell(), upTo(3)); break;
+            default: call("state", from(0, 11)); break;
         }
-        call("surplus");
-        call("moment", 0);
-        call("moment", 1);
-        call("nextStep");
-        call("highSide");
-        int well = someWell();
-        call("bottom", well);
-        call("edge", someCell(), 1);
-        // The rows of the comparison would only hide the run itself.
-        before.subList(Math.max(0, before.size() - 16), before.size()).clear();
     }
 
-    private void compareAll() {
-        for (int what = -1; what <= 12; what++) {
-            call("state", what);
-        }
-        for (int cell = -1; cell <= cells(); cell++) {
-            call("bottom", cell);
-            for (int what = -1; what <= 5; what++) {
-                call("edge", cell, what);
-            }
-        }
-        for (int i = -1; i <= 21; i++) {
-            for (int part = -1; part <= 3; part++) {
-                call("record", i, part);
-                call("plan", i, part);
-                call("boulder", i, part);
-            }
-        }
-        for (int side = -1; side <= 4; side++) {
-            call("sideResistance", side);
-            call("moment", side);
-        }
-        for (int what = -1; what <= 4; what++) {
-            call("wouldSettle", 50, what);
-        }
-        call("stuckDepth");
-        call("ballastNeeded");
-        for (int i = 0; i < 7; i++) {
-            call("undo");
-            compareSummary();
+    private void askOfAPart() {
+        switch (random.nextInt(11)) {
+            case 0: call("bottom", someCell()); break;
+            case 1: call("edge", someCell(), from(0, 4)); break;
+            case 2: call("record", from(0, 20), from(0, 2)); break;
+            case 3: call("plan", from(0, 12), from(0, 2)); break;
+            case 4: call("boulder", from(0, 9), from(0, 2)); break;
+            case 5: call("sideResistance", from(0, 3)); break;
+            case 6: call("wouldSettle", from(1, 50), from(0, 3)); break;
+            case 7: call("stuckDepth"); break;
+            case 8: call("ballastNeeded"); break;
+            case 9: call("ground", from(0, 200), from(0, 1)); break;
+            default: call("state", from(0, 11)); break;
         }
     }
 }

@@ -1,7 +1,5 @@
 /** Promises 28 to 34. */
 public final class WhatWouldBeTest {
-    private static final String NO_RESISTANCE = "addLayer(100,0,0) = 1; addLayer(100,0,0) = 2;"
-            + "addLayer(100,0,0) = 3;";
     /** A caisson of one well, whose bottom lies on a boulder. */
     private static final String NO_WELL_TO_DIG = "resize(3,3) = 1; addBoulder(4,1,5) = 0; dig(4,3) = 1;";
 
@@ -28,7 +26,7 @@ public final class WhatWouldBeTest {
     }
 
     private void wouldSettle() {
-        run("promise 28").calls(NO_RESISTANCE + "setBallast(5,99) = 0; setStiffness(390) = 400; wouldSettle(3,0) = 3;"
+        run("promise 28").calls(Run.NO_RESISTANCE + "setBallast(5,99) = 0; setStiffness(390) = 400; wouldSettle(3,0) = 3;"
                 + "wouldSettle(3,1) = 7; wouldSettle(3,2) = 7; wouldSettle(3,3) = 0; wouldSettle(4,3) = 0;"
                 + "wouldSettle(5,3) = 1; wouldSettle(50,0) = 5; wouldSettle(50,1) = 5; wouldSettle(50,2) = 5;"
                 + "wouldSettle(50,3) = 1; state(3) = 0; state(4) = 10; state(5) = 10; state(11) = 1; undo() = 4");
@@ -37,7 +35,7 @@ public final class WhatWouldBeTest {
                 + "wouldSettle(LEAST,MOST) = INVALID_ARGUMENT");
         run("promise 28: holds").calls("setWeight(1) = 600; dig(6,10) = 10; wouldSettle(9,0) = 0; wouldSettle(9,1) = 10;"
                 + "wouldSettle(9,2) = 10; wouldSettle(9,3) = 0; bottom(6) = 10");
-        run("promise 28: bottoms stay").calls(NO_RESISTANCE + "dig(6,6) = 6; wouldSettle(1,0) = 1; bottom(6) = 6;"
+        run("promise 28: bottoms stay").calls(Run.NO_RESISTANCE + "dig(6,6) = 6; wouldSettle(1,0) = 1; bottom(6) = 6;"
                 + "settle(1) = 1; bottom(6) = 1");
         jamsBeforeTheHeaveOnly();
     }
@@ -72,7 +70,7 @@ public final class WhatWouldBeTest {
         run("promise 29: all at the limit").calls("resize(3,3) = 1; setWeight(1) = 600; dig(4,10) = 10; bestWell(1) = 4;"
                 + "dig(4,10) = 2; bestWell(1) = NONE");
         // 20 steps and no more: a target within them needs one well, one beyond them two.
-        run("promise 29: 20 steps").calls(NO_RESISTANCE + "makePlan(20,1) = 1; plan(0,1) = 20; makePlan(21,1) = 2;"
+        run("promise 29: 20 steps").calls(Run.NO_RESISTANCE + "makePlan(20,1) = 1; plan(0,1) = 20; makePlan(21,1) = 2;"
                 + "plan(1,1) = 40; makePlan(200,10) = 10; plan(9,1) = 200");
     }
 
@@ -98,7 +96,7 @@ public final class WhatWouldBeTest {
                 + "plan(0,3) = INVALID_ARGUMENT; plan(MOST,2) = NONE; plan(MOST,3) = INVALID_ARGUMENT;"
                 + "plan(LEAST,0) = INVALID_ARGUMENT");
         // The ballast tilts it while it sinks, whatever is dug: |a| + |b| are 5 and 5 in the end.
-        run("promise 31: tilts").calls(NO_RESISTANCE + "setBallast(0,99) = 0; makePlan(3,2) = 1; plan(0,0) = 6;"
+        run("promise 31: tilts").calls(Run.NO_RESISTANCE + "setBallast(0,99) = 0; makePlan(3,2) = 1; plan(0,0) = 6;"
                 + "plan(0,1) = 5; plan(0,2) = 10; makePlan(6,2) = 12; plan(1,1) = 5; plan(11,2) = 10; state(4) = 10");
     }
 
@@ -139,13 +137,13 @@ public final class WhatWouldBeTest {
         tilted("resize(4,4) = 4;", 12, 0, 1);
         run("promise 33: none").calls("highSide() = NONE; settle(1) = 1; highSide() = NONE");
         // South 7 cells, west 3: the sum of the depths is smaller in the west, the mean in the south.
-        run("promise 33: means").calls(NO_RESISTANCE + "resize(7,3) = 5; settle(30) = 30; setBallast(17,99) = 0;"
+        run("promise 33: means").calls(Run.NO_RESISTANCE + "resize(7,3) = 5; settle(30) = 30; setBallast(17,99) = 0;"
                 + "settle(2) = 2; state(4) = 10; state(5) = 12; edge(3,0) = 30; edge(17,0) = 34; highSide() = 2");
     }
 
     /** The ballast in the cell makes the side near it deep. */
     private void tilted(String size, int cell, int deep, int high) {
-        run("promise 33: ballast in " + cell).calls(NO_RESISTANCE + size + "settle(30) = 30; setBallast(" + cell
+        run("promise 33: ballast in " + cell).calls(Run.NO_RESISTANCE + size + "settle(30) = 30; setBallast(" + cell
                 + ",99) = 0; settle(2) = 2; highSide() = " + high + "; setBallast(" + cell + ",0) = 99;"
                 + "lubricate(" + deep + ",1) = 1; highSide() = " + high);
     }

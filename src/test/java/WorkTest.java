@@ -1,8 +1,5 @@
 /** Promises 21 to 27, and with them the terms about digging, heave and records. */
 public final class WorkTest {
-    private static final String NO_RESISTANCE = "addLayer(100,0,0) = 1; addLayer(100,0,0) = 2;"
-            + "addLayer(100,0,0) = 3;";
-
     private final Checks checks = new Checks("WorkTest");
 
     public static void main(String[] args) {
@@ -58,13 +55,13 @@ public final class WorkTest {
                 + "record(0,2) = 60; settle(1) = ILLEGAL_STATE; settle(0) = INVALID_ARGUMENT; state(11) = 3;"
                 + "undo() = 3; state(3) = 51; state(11) = 2");
         // A caisson that jams doesn't hold: it settles with 0 steps, and its bottoms heave.
-        run("promise 22: jams").calls(NO_RESISTANCE + "setBallast(5,99) = 0; settle(9) = 5; dig(6,10) = 10;"
+        run("promise 22: jams").calls(Run.NO_RESISTANCE + "setBallast(5,99) = 0; settle(9) = 5; dig(6,10) = 10;"
                 + "bottom(6) = 10; dig(7,9) = 9; settle(9) = 0; bottom(6) = 5; bottom(7) = 9; record(0,0) = 1;"
                 + "record(0,1) = 0; record(0,2) = 5; state(11) = 5; undo() = 5; bottom(6) = 10");
     }
 
     private void heave() {
-        run("heave at strength 0").calls(NO_RESISTANCE + "dig(6,6) = 6; dig(7,5) = 5; settle(1) = 1; bottom(6) = 1;"
+        run("heave at strength 0").calls(Run.NO_RESISTANCE + "dig(6,6) = 6; dig(7,5) = 5; settle(1) = 1; bottom(6) = 1;"
                 + "bottom(7) = 5; dig(7,10) = 8; bottom(7) = 13; settle(10) = 10; bottom(7) = 13; bottom(6) = 1");
         // The strength counts at the bottom: 10 there allows 6, not the 4 at the edge.
         run("heave by the strength at the bottom").calls("addLayer(3,0,0) = 1; addLayer(50,10,0) = 2; dig(6,8) = 8;"

@@ -8,6 +8,12 @@ import java.util.Map;
  * results behind them, separated by semicolons. A result may be the name of a constant.
  */
 final class Run {
+    /** Ground that bears nothing down to 300: only ballast tilts, and nothing holds above 200. */
+    static final String NO_RESISTANCE = "addLayer(100,0,0) = 1; addLayer(100,0,0) = 2;"
+            + "addLayer(100,0,0) = 3;";
+    /** What later calls answer is free, so that no test may ask for more. */
+    static final int MOST_CALLS = 512;
+
     private static final Map<String, Method> METHODS = new HashMap<>();
 
     static {
@@ -21,6 +27,7 @@ final class Run {
     private final Checks checks;
     private final String name;
     private final CaissonSinker caisson = new CaissonSinker();
+    private int made = 0;
 
     Run(Checks checks, String name) {
         this.checks = checks;
@@ -29,10 +36,10 @@ final class Run {
 
     /** Empties the text and types another one into it. */
     Run type(String text) {
-        caisson.clearText();
+        ask("clearText()");
         for (int i = 0; i < text.length(); i++) {
             checks.due(name + ": appendCharacter " + i + " of " + text,
-                    caisson.appendCharacter(text.charAt(i)), i + 1);
+                    ask("appendCharacter(" + (int) text.charAt(i) + ")"), i + 1);
         }
         return this;
     }
@@ -52,10 +59,15 @@ final class Run {
             throw new IllegalArgumentException("no result in " + row);
         }
         String called = row.substring(0, equals).trim();
-        checks.due(name + ": " + called, answer(called), value(row.substring(equals + 1).trim()));
+        checks.due(name + ": " + called, ask(called), value(row.substring(equals + 1).trim()));
     }
 
-    private int answer(String called) {
+    /** The answer of a call, whatever it is. */
+    int ask(String called) {
+        made++;
+        if (made > MOST_CALLS) {
+            throw new IllegalStateException(name + " has more than " + MOST_CALLS + " calls");
+        }
         int open = called.indexOf('(');
         String inside = called.substring(open + 1, called.indexOf(')')).trim();
         String[] words = inside.isEmpty() ? new String[0] : inside.split(",");
