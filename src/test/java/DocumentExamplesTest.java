@@ -1,6 +1,15 @@
-/** The five examples of the document, call by call. */
+import java.io.IOException;
+import java.nio.file.Files;
+import java.nio.file.Path;
+import java.util.regex.Matcher;
+import java.util.regex.Pattern;
+
+/** The five examples of the document, call by call; and as they stand in the document, if it is at hand. */
 public final class DocumentExamplesTest {
-    public static void main(String[] args) {
+    private static final Path DOCUMENT = Path.of("../shared/DOC.md");
+    private static final Pattern EXAMPLE = Pattern.compile("(?m)^(\\d)\\. [^:]*: (.*)\\.$");
+
+    public static void main(String[] args) throws IOException {
         Checks checks = new Checks("DocumentExamplesTest");
 
         new Run(checks, "example 1").calls("addLayer(50,3,1) = 1; surplus() = 2316; edge(0,1) = 6;"
@@ -27,6 +36,19 @@ public final class DocumentExamplesTest {
                 + "clearText() = 7; bottom(0) = -1000001; edge(6,0) = -1000001;"
                 + "dig(6,11) = -1000001; settle(5) = 1; undo() = 0");
 
+        if (Files.exists(DOCUMENT)) {
+            runDocument(checks);
+        }
         checks.finish();
+    }
+
+    private static void runDocument(Checks checks) throws IOException {
+        Matcher example = EXAMPLE.matcher(Files.readString(DOCUMENT));
+        int examples = 0;
+        while (example.find()) {
+            examples++;
+            new Run(checks, "the document's example " + example.group(1)).calls(example.group(2));
+        }
+        checks.due("examples in the document", examples, 5);
     }
 }
